@@ -1212,7 +1212,7 @@ public final class FreeGroupCalculator {
 
         // The list grows while it is walked through, but only by unions, each of which ends a vertex.
         private void mergeCoincidences() {
-            for (int i = 0; i < coincidences; i++) {
+            for (int i = 0; i < coincidences && i < MAX_COINCIDENCES; i++) {
                 int left = survivorOf(lefts[i]);
                 int right = survivorOf(rights[i]);
                 if (left != right) {
@@ -1250,7 +1250,7 @@ public final class FreeGroupCalculator {
             found[0] = 0;
             graph.vertices = 1;
             graph.edges = 0;
-            for (int vertex = 0; vertex < graph.vertices; vertex++) {
+            for (int vertex = 0; vertex < graph.vertices && vertex < MAX_VERTICES; vertex++) {
                 for (int code = 0; code < CODES; code++) {
                     int to = table[found[vertex] * CODES + code];
                     if (to != NONE && numbers[to] == NONE) {
@@ -1289,7 +1289,7 @@ public final class FreeGroupCalculator {
             pairs = 0;
             edges = 0;
             reach(0);
-            for (int i = 0; i < pairs; i++) {
+            for (int i = 0; i < pairs && i < MAX_PAIRS; i++) {
                 reachNeighbours(left, right, reached[i]);
             }
             for (int i = 0; i < pairs; i++) {

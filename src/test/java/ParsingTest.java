@@ -12,6 +12,7 @@ public final class ParsingTest {
         truncate();
         correctTexts();
         syntaxErrors();
+        earlyEnds();
         otherErrors();
         whatLoadChanges();
         Check.end();
@@ -147,6 +148,29 @@ public final class ParsingTest {
         error("rank 2; set 0 a:;", SYNTAX, 15);
     }
 
+    // The buffer may hold bytes behind its length, from before it was shortened.
+    private static void earlyEnds() {
+        String text = "rank 2;set 11 aaaa 11;";
+        for (int length = 0; length < 12; length++) {
+            FreeGroupCalculator x = new FreeGroupCalculator();
+            Check.put(x, text);
+            int end = length;
+            x.truncate(end);
+            if (end == 7) {
+                Check.same("a text without statements", x.load(), 2);
+                continue;
+            }
+            Check.fails("cut at " + end, IllegalArgumentException.class, x::load);
+            int due = end < 4 ? 0 : end > 7 && end < 10 ? 7 : end;
+            Check.same("cut at " + end, x.errorPosition(), end == 0 ? 0 : due);
+        }
+        error("rank 2;" + " ".repeat(592) + "a", SYNTAX, 599);
+        error("rank 2;" + " ".repeat(590) + "set", SYNTAX, 600);
+        error("rank 2;" + " ".repeat(588) + "set 1", SYNTAX, 600);
+        error("rank 2;" + " ".repeat(586) + "set 1 a", SYNTAX, 600);
+        error(" ".repeat(600), SYNTAX, 600);
+    }
+
     private static void otherErrors() {
         error("rank 0;", RANGE, 5);
         error("rank 5", RANGE, 5);
@@ -160,6 +184,8 @@ public final class ParsingTest {
         error("rank 1; set 0 B;", UNKNOWN, 14);
         error("rank 4; set 0 abcdABCD e;", UNKNOWN, 23);
         error("rank 2; set 0 set;", UNKNOWN, 14);
+        error("rank 2; set 0 z;", UNKNOWN, 14);
+        error("rank 2; set 0 Z;", UNKNOWN, 14);
         error("rank 2; set 0 a join 0 0;", UNKNOWN, 16);
         String sixty = "a".repeat(60);
         error("rank 1; set 0 " + sixty + " a;", LONG, 75);
@@ -184,6 +210,8 @@ public final class ParsingTest {
 
     private static void whatLoadChanges() {
         FreeGroupCalculator x = Check.loaded("rank 3; set 0 abc; set 5 bb; join 0 5;");
+        Check.same("graph before", x.vertexCount(0), 2);
+        Check.same("intersection before", x.intersectionRank(), 0);
         x.save();
         x.setInverse(1, 0);
         x.formatWord(1);
@@ -209,6 +237,10 @@ public final class ParsingTest {
         Check.same("a subgroup that the text does not join", x.generatingWordCount(0), 0);
         Check.same("its graph", x.vertexCount(0), 1);
         Check.same("the other graph", x.edgeCount(1), 1);
+        x.truncate(0);
+        Check.put(x, "rank 1; set 2 a; join 0 2; join 1 2;");
+        x.load();
+        Check.same("graphs and their intersection are new", x.intersectionRank(), 1);
         Check.fails("no undo over a load", IllegalStateException.class, x::undo);
         Check.fails("no saved state over a load", IllegalStateException.class, x::restore);
         Check.same("the formatted text stays", Check.formatted(x, 9), "c-1b-1a-1");

@@ -146,6 +146,9 @@ public final class RandomRunsTest {
 
     private String randomText() {
         rank = 1 + random.nextInt(4);
+        if (random.nextInt(6) == 0) {
+            return longWords();
+        }
         StringBuilder text = new StringBuilder("rank " + rank + ";");
         int statements = random.nextInt(25);
         for (int i = 0; i < statements && text.length() < 500; i++) {
@@ -166,6 +169,18 @@ public final class RandomRunsTest {
             spoil(text);
         }
         text.setLength(Math.min(text.length(), 600));
+        return text.toString();
+    }
+
+    private String longWords() {
+        StringBuilder text = new StringBuilder("rank " + rank + ";");
+        for (int i = 0; i < 6; i++) {
+            text.append("set ").append(i).append(' ').append(randomWord(40 + random.nextInt(21))).append(';');
+        }
+        for (int i = 0; i < 6; i++) {
+            text.append("join 0 ").append(i).append(';');
+            text.append("join 1 ").append(random.nextInt(6)).append(';');
+        }
         return text.toString();
     }
 

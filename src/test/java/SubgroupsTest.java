@@ -66,6 +66,11 @@ public final class SubgroupsTest {
         FreeGroupCalculator z = Check.loaded(text.toString());
         Check.same("hardly folded", z.vertexCount(0), 4 * 59 + 1);
         Check.same("its rank", z.subgroupRank(0), 4);
+        FreeGroupCalculator v = Check.loaded("rank 3; set 0 a" + "b".repeat(58) + "a; set 1 A" + "b".repeat(58)
+                + "c; set 2 b" + "c".repeat(58) + "b; set 3 B" + "c".repeat(58) + "a; set 4 c" + "a".repeat(58)
+                + "c; set 5 C" + "a".repeat(58)
+                + "b; join 0 0; join 0 1; join 0 2; join 0 3; join 0 4; join 0 5;");
+        Check.same("six words of 60 letters", v.vertexCount(0), 349);
         FreeGroupCalculator w = Check.loaded("rank 2; set 0 baB; set 1 bbaBB; set 2 bbbaBBB; join 0 0; join 0 1;"
                 + "join 0 2;");
         Check.same("folded stems", w.vertexCount(0), 4);
@@ -134,6 +139,15 @@ public final class SubgroupsTest {
         Check.same("rank above 0, infinite index", y.isNormal(1), false);
         y.addGeneratingWord(0, 7);
         Check.same("an empty generating word", y.isNormal(0), true);
+        // The same subgroup of index 3, but every word except a is closed at each vertex.
+        FreeGroupCalculator z = Check.loaded("rank 2; set 0 a; set 1 bb; set 2 baaB; set 3 babABa; join 1 0; join 1 1;"
+                + "join 1 2; join 1 3; join 0 1; join 0 2; join 0 3; join 0 0;");
+        Check.same("index 3", z.index(1), 3);
+        Check.same("only the first word is open elsewhere", z.isNormal(1), false);
+        Check.same("only the last word is open elsewhere", z.isNormal(0), false);
+        FreeGroupCalculator w = Check.loaded("rank 1; set 0 aa; set 1 a; join 0 0; join 0 1; join 1 0; join 1 1;");
+        w.removeGeneratingWord(0, 1);
+        Check.same("without the removed word", w.isNormal(0), true);
     }
 
     private static void inclusion() {
@@ -146,6 +160,10 @@ public final class SubgroupsTest {
         FreeGroupCalculator y = Check.loaded("rank 2; set 0 a; join 0 0;");
         Check.same("contains the trivial one", y.containsSubgroup(0, 1), true);
         Check.same("the trivial one contains", y.containsSubgroup(1, 0), false);
+        y.removeGeneratingWord(0, 0);
+        Check.same("without the removed word", y.containsSubgroup(1, 0), true);
+        FreeGroupCalculator z = Check.loaded("rank 2; set 0 aa; set 1 b; join 0 0; join 1 0; join 1 1;");
+        Check.same("the last word is looked at", z.containsSubgroup(0, 1), false);
     }
 
     private static void intersections() {

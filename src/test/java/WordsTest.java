@@ -6,6 +6,7 @@ public final class WordsTest {
     public static void main(String[] args) {
         lettersOfWords();
         comparisons();
+        longWords();
         sums();
         products();
         noSuchNumbers();
@@ -51,6 +52,24 @@ public final class WordsTest {
         Check.same("no prefix", X.commonPrefix(0, 1), 0);
         Check.same("empty prefix", X.commonPrefix(0, 7), 0);
         Check.same("whole prefix", X.commonPrefix(3, 3), 4);
+    }
+
+    private static void longWords() {
+        FreeGroupCalculator x = Check.loaded("rank 2; set 0 " + "ab".repeat(30) + "; set 1 " + "ab".repeat(30)
+                + "; set 2 " + "ab".repeat(29) + "aB; set 3 " + "BA".repeat(30) + ";");
+        Check.same("equal", x.areEqual(0, 1), true);
+        Check.same("equal", x.compare(0, 1), 0);
+        Check.same("prefix", x.commonPrefix(0, 1), 60);
+        Check.same("the last letter differs", x.areEqual(0, 2), false);
+        Check.same("by the last letter", x.compare(0, 2), -1);
+        Check.same("prefix", x.commonPrefix(0, 2), 59);
+        Check.same("inverse", x.areInverse(0, 3), true);
+        Check.same("cancellation", x.cancellation(0, 3), 60);
+        Check.same("last letter", x.letter(2, 59), 'B');
+        Check.noSuchNumber("letter behind", () -> x.letter(2, 60));
+        Check.same("sum", x.exponentSum(2, 1), 28);
+        Check.same("commute", x.doCommute(0, 3), true);
+        Check.same("do not commute", x.doCommute(0, 2), false);
     }
 
     private static void sums() {
