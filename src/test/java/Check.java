@@ -97,8 +97,4 @@ final class Check {
         noSuchNumber("formattedCharacter behind the text", () -> x.formattedCharacter(length));
         return text.toString();
     }
-
-    static String repeated(String word, int count) {
-        return word.repeat(count);
-    }
 }

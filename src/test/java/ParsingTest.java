@@ -162,7 +162,7 @@ public final class ParsingTest {
             }
             Check.fails("cut at " + end, IllegalArgumentException.class, x::load);
             int due = end < 4 ? 0 : end > 7 && end < 10 ? 7 : end;
-            Check.same("cut at " + end, x.errorPosition(), end == 0 ? 0 : due);
+            Check.same("cut at " + end, x.errorPosition(), due);
         }
         error("rank 2;" + " ".repeat(592) + "a", SYNTAX, 599);
         error("rank 2;" + " ".repeat(590) + "set", SYNTAX, 600);

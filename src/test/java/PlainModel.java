@@ -671,10 +671,11 @@ public final class PlainModel {
         if (word.isEmpty()) {
             throw new NoSuchElementException();
         }
-        int exponent = exponent(core(word));
+        String core = core(word);
+        int exponent = exponent(core);
+        String tail = word.substring((word.length() + core.length()) / 2);
         for (int length = 1; ; length++) {
-            String tail = word.substring((word.length() - core(word).length()) / 2 + core(word).length());
-            String root = reduced(inverse(tail) + core(word).substring(0, Math.min(length, core(word).length())) + tail);
+            String root = reduced(inverse(tail) + core.substring(0, Math.min(length, core.length())) + tail);
             if (reducedPower(root, exponent).equals(word)) {
                 return store(register, root);
             }
