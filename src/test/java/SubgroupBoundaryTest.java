@@ -1,4 +1,6 @@
+import java.util.ArrayList;
 import java.util.Arrays;
+import java.util.List;
 
 /** The boundary cases of promises 25 to 38: trivial subgroups, the whole group, and the largest graphs. */
 public final class SubgroupBoundaryTest {
@@ -22,6 +24,8 @@ public final class SubgroupBoundaryTest {
         intersectionsOfCircles();
         indexOfIntersections();
         foldingOneAfterTheOther();
+        foldingInEachOrder();
+        foldingOfEachPair();
         orderOfVertices();
         Check.end();
     }
@@ -402,6 +406,83 @@ public final class SubgroupBoundaryTest {
             Check.same("a circle folded onto a circle", z.vertexCount(0), due[i]);
             Check.same("its edges", z.edgeCount(0), due[i]);
         }
+    }
+
+    // "The result does not depend on the order of the foldings": nor on the order or the direction of the words.
+    private static void foldingInEachOrder() {
+        String[][] lists = {
+            {"abab", "aabb", "baab", "bbaa"}, {"aab", "abba", "bAbA", "aBBa"}, {"aaBaa", "bab", "abbA", "BBB"},
+            {"abABab", "bbbb", "aBaB", "AbbA"}, {"abcabc", "cba", "aCa", "bbcc"}, {"abaabaab", "ababa", "aabbaa", "B"}
+        };
+        for (String[] words : lists) {
+            String due = graph(generated(3, words));
+            for (int order = 0; order < 256; order++) {
+                int[] places = {order / 64, order / 16 % 4, order / 4 % 4, order % 4};
+                if (Arrays.stream(places).distinct().count() == 4) {
+                    String[] others = new String[4];
+                    for (int i = 0; i < 4; i++) {
+                        String word = words[places[i]];
+                        others[i] = (order + i) % 3 == 0 ? inverse(word) : word;
+                    }
+                    Check.same("graph of " + String.join(" ", others), graph(generated(3, others)), due);
+                }
+            }
+        }
+    }
+
+    // Every pair of reduced words of one to three letters, compared with the plain model.
+    private static void foldingOfEachPair() {
+        List<String> words = new ArrayList<>(List.of("a", "A", "b", "B"));
+        for (int i = 0; words.get(i).length() < 3; i++) {
+            for (char letter : "aAbB".toCharArray()) {
+                if (words.get(i).charAt(words.get(i).length() - 1) != (letter ^ 32)) {
+                    words.add(words.get(i) + letter);
+                }
+            }
+        }
+        for (String first : words) {
+            for (String second : words) {
+                PlainModel model = new PlainModel();
+                put(model, first, second);
+                FreeGroupCalculator x = generated(2, first, second);
+                Check.same("edges of " + first + " " + second, x.edgeCount(0), model.edgeCount(0));
+                Check.same("vertices of " + first + " " + second, x.vertexCount(0), model.vertexCount(0));
+                for (int vertex = 0; vertex < Math.min(x.vertexCount(0), model.vertexCount(0)); vertex++) {
+                    for (int code = 0; code < 4; code++) {
+                        Check.same("neighbour in " + first + " " + second, x.neighbour(0, vertex, code),
+                                model.neighbour(0, vertex, code));
+                    }
+                }
+            }
+        }
+    }
+
+    private static void put(PlainModel model, String... words) {
+        for (String word : words) {
+            byte[] bytes = word.getBytes();
+            model.append(Check.four(bytes, 0), 0, 0, 0, 0);
+            model.truncate(bytes.length);
+            model.setRegister(0);
+            model.addGeneratingWord(0, 0);
+        }
+    }
+
+    private static String inverse(String word) {
+        StringBuilder result = new StringBuilder();
+        for (char letter : word.toCharArray()) {
+            result.insert(0, (char) (letter ^ 32));
+        }
+        return result.toString();
+    }
+
+    private static String graph(FreeGroupCalculator x) {
+        StringBuilder text = new StringBuilder(x.edgeCount(0) + " edges:");
+        for (int vertex = 0; vertex < x.vertexCount(0); vertex++) {
+            for (int code = 0; code < 6; code++) {
+                text.append(' ').append(x.neighbour(0, vertex, code));
+            }
+        }
+        return text.toString();
     }
 
     // The neighbours of the base vertex are numbered along a, A, b, B, c, C, d and D.
