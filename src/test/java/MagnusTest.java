@@ -27,6 +27,12 @@ public final class MagnusTest {
         Check.same("double commutator", X.magnusDegree(4), 3);
         Check.same("triple commutator", X.magnusDegree(5), 4);
         Check.same("empty word", X.magnusDegree(7), FreeGroupCalculator.NONE);
+        FreeGroupCalculator z = Check.loaded("rank 4; set 0 aB; set 1 c; set 2 D; set 3 aDbcAC; set 4 cdCD; set 5 bcBC;"
+                + "set 6 daDAd; set 7 bAbaCBcB;");
+        int[] due = {1, 1, 1, 1, 2, 2, 1, 2};
+        for (int register = 0; register < 8; register++) {
+            Check.same("degree of the register " + register, z.magnusDegree(register), due[register]);
+        }
         FreeGroupCalculator y = Check.loaded("rank 2; set 0 a; set 1 b;");
         y.setCommutator(2, 0, 1);
         y.setCommutator(3, 2, 0);

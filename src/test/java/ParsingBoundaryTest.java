@@ -1,3 +1,5 @@
+import java.nio.charset.StandardCharsets;
+
 /** The boundary cases of promises 1 to 7 and of the text format, each over its whole range. */
 public final class ParsingBoundaryTest {
     private static final int SYNTAX = FreeGroupCalculator.SYNTAX_ERROR;
@@ -16,6 +18,7 @@ public final class ParsingBoundaryTest {
         bytesBetweenTokens();
         bytesBesideItems();
         numbers();
+        bytesInPlaceOfNumbers();
         numbersInPlaceOfItems();
         runsOfLetters();
         runsOfDigits();
@@ -133,6 +136,24 @@ public final class ParsingBoundaryTest {
                 answered("rank 1;join 1 " + written + ";", isRegister ? CORRECT : RANGE, isRegister ? NONE : 14);
             }
         }
+    }
+
+    private static void bytesInPlaceOfNumbers() {
+        for (int symbol = 0; symbol < 256; symbol++) {
+            if (symbol != 32 && symbol != 10) {
+                inPlaceOfNumber("rank ", (char) symbol, ";", 1, 4);
+                inPlaceOfNumber("rank 1;set ", (char) symbol, " a;", 0, 7);
+                inPlaceOfNumber("rank 1;join ", (char) symbol, " 0;", 0, 1);
+                inPlaceOfNumber("rank 1;join 1 ", (char) symbol, ";", 0, 7);
+            }
+        }
+    }
+
+    private static void inPlaceOfNumber(String before, char symbol, String after, int least, int greatest) {
+        boolean isDigit = symbol >= 48 && symbol <= 57;
+        boolean isInRange = isDigit && symbol - 48 >= least && symbol - 48 <= greatest;
+        answered(before + symbol + after, isInRange ? CORRECT : isDigit ? RANGE : SYNTAX,
+                isInRange ? NONE : before.length());
     }
 
     private static void numbersInPlaceOfItems() {
@@ -278,31 +299,64 @@ public final class ParsingBoundaryTest {
         String text = "rank 2;set 7 ab 1 A;join 1 7;\nset 0 b;";
         for (int place = 0; place < text.length(); place++) {
             for (char mark : "019 \n;abcBnrz-".toCharArray()) {
-                likeTheModel(text.substring(0, place) + mark + text.substring(place + 1));
                 likeTheModel(text.substring(0, place) + mark + text.substring(place));
             }
             likeTheModel(text.substring(0, place) + text.substring(place + 1));
         }
+        for (int place = 0; place < text.length(); place++) {
+            String[] changed = new String[256];
+            for (int symbol = 0; symbol < 256; symbol++) {
+                changed[symbol] = text.substring(0, place) + (char) symbol + text.substring(place + 1);
+            }
+            oneAfterAnother(changed);
+        }
     }
 
-    private static void likeTheModel(String text) {
+    // Each object loads some forty texts, so that a text with an error meets what the texts before it have left.
+    private static void oneAfterAnother(String[] texts) {
+        FreeGroupCalculator x = new FreeGroupCalculator();
         PlainModel model = new PlainModel();
-        for (int i = 0; i < text.length(); i += 20) {
-            byte[] bytes = text.getBytes();
+        for (int i = 0; i < texts.length; i++) {
+            if (i % 40 == 0) {
+                x = new FreeGroupCalculator();
+                model = new PlainModel();
+            }
+            boolean isCorrect = loadsInModel(model, texts[i]);
+            Check.put(x, texts[i]);
+            if (isCorrect) {
+                Check.same("load of " + texts[i], x.load(), model.groupRank());
+            } else {
+                Check.fails("load of " + texts[i], IllegalArgumentException.class, x::load);
+            }
+            sameAsModel(texts[i], x, model);
+        }
+    }
+
+    private static boolean loadsInModel(PlainModel model, String text) {
+        byte[] bytes = text.getBytes(StandardCharsets.ISO_8859_1);
+        for (int i = 0; i < bytes.length; i += 20) {
             model.append(Check.four(bytes, i), Check.four(bytes, i + 4), Check.four(bytes, i + 8),
                     Check.four(bytes, i + 12), Check.four(bytes, i + 16));
         }
-        model.truncate(text.length());
+        model.truncate(bytes.length);
         try {
             model.load();
+            return true;
         } catch (IllegalArgumentException e) {
-            Check.same("an error of " + text, model.errorKind() > 0, true);
+            return false;
         }
-        FreeGroupCalculator x = answered(text, model.errorKind(), model.errorPosition());
+    }
+
+    private static void likeTheModel(String text) {
+        oneAfterAnother(new String[] {text});
+    }
+
+    private static void sameAsModel(String text, FreeGroupCalculator x, PlainModel model) {
+        Check.same("errorKind of " + text, x.errorKind(), model.errorKind());
+        Check.same("errorPosition of " + text, x.errorPosition(), model.errorPosition());
         Check.same("rank after " + text, x.groupRank(), model.groupRank());
-        for (int register = 0; register < 8; register += 7) {
-            Check.same("register " + register + " after " + text, x.wordLength(register), model.wordLength(register));
-        }
+        Check.same("register 0 after " + text, x.wordLength(0), model.wordLength(0));
+        Check.same("register 7 after " + text, x.wordLength(7), model.wordLength(7));
         Check.same("words after " + text, x.generatingWordCount(1), model.generatingWordCount(1));
     }
 

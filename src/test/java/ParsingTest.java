@@ -15,6 +15,9 @@ public final class ParsingTest {
         earlyEnds();
         otherErrors();
         whatLoadChanges();
+        nothingOfTheLoadBefore();
+        answersThatAreReadTwice();
+        twoObjects();
         Check.end();
     }
 
@@ -51,6 +54,15 @@ public final class ParsingTest {
         Check.fails("one byte too many", IllegalStateException.class, () -> x.append(0, 0, 0, 0, 0));
         x.truncate(580);
         Check.same("just enough room", x.append(0, 0, 0, 0, 0), 600);
+        FreeGroupCalculator y = new FreeGroupCalculator();
+        Check.put(y, "abAAb" + "aA".repeat(290) + "BaaBA" + "aA".repeat(5));
+        Check.fails("full", IllegalStateException.class, () -> y.append(-1, -1, -1, -1, -1));
+        Check.same("a refused call leaves each byte as it is", y.setRegister(0), 0);
+        Check.put(y, "aabbc" + " ".repeat(580));
+        Check.fails("full", IllegalStateException.class, () -> y.append(-1, -1, -1, -1, -1));
+        y.truncate(4);
+        Check.same("the first bytes too", y.setRegister(0), 4);
+        Check.same("word", Check.word(y, 0), "aabb");
     }
 
     private static void truncate() {
@@ -244,5 +256,69 @@ public final class ParsingTest {
         Check.fails("no undo over a load", IllegalStateException.class, x::undo);
         Check.fails("no saved state over a load", IllegalStateException.class, x::restore);
         Check.same("the formatted text stays", Check.formatted(x, 9), "c-1b-1a-1");
+    }
+
+    private static void nothingOfTheLoadBefore() {
+        StringBuilder text = new StringBuilder("rank 4;");
+        for (int register = 0; register < 8; register++) {
+            text.append("set ").append(register).append(" dcba;join ").append(register % 2).append(" 0;");
+        }
+        FreeGroupCalculator x = Check.loaded(text.toString());
+        Check.same("all registers", x.save(), 8 * 4);
+        Check.same("words of subgroup 0", x.generatingWordCount(0), 4);
+        Check.same("words of subgroup 1", x.generatingWordCount(1), 4);
+        Check.same("vertices", x.vertexCount(1), 4);
+        Check.put(x, "rank 1;");
+        x.load();
+        for (int register = 0; register < 8; register++) {
+            Check.same("register " + register, x.wordLength(register), 0);
+        }
+        for (int subgroup = 0; subgroup < 2; subgroup++) {
+            Check.same("words of subgroup " + subgroup, x.generatingWordCount(subgroup), 0);
+            Check.same("vertices of subgroup " + subgroup, x.vertexCount(subgroup), 1);
+            Check.same("edges of subgroup " + subgroup, x.edgeCount(subgroup), 0);
+        }
+        Check.same("letters in all registers", x.save(), 0);
+    }
+
+    private static void answersThatAreReadTwice() {
+        FreeGroupCalculator x = new FreeGroupCalculator();
+        Check.put(x, "rank 2;set 9 a;");
+        Check.fails("error", IllegalArgumentException.class, x::load);
+        for (int i = 0; i < 3; i++) {
+            Check.same("kind", x.errorKind(), RANGE);
+            Check.same("position", x.errorPosition(), 11);
+            Check.same("rank", x.groupRank(), 2);
+        }
+    }
+
+    // Calls of one object between those of another one.
+    private static void twoObjects() {
+        FreeGroupCalculator x = new FreeGroupCalculator();
+        FreeGroupCalculator y = new FreeGroupCalculator();
+        Check.put(x, "rank 4;set 0 dd;set 1 ab;join 0 0;");
+        Check.put(y, "rank 1;set 0 b;");
+        Check.same("the text of the first object", x.load(), 4);
+        Check.fails("the text of the second object", IllegalArgumentException.class, y::load);
+        Check.same("kind of the second object", y.errorKind(), UNKNOWN);
+        Check.same("kind of the first object", x.errorKind(), FreeGroupCalculator.NO_ERROR);
+        Check.same("position of the first object", x.errorPosition(), FreeGroupCalculator.NONE);
+        Check.same("rank of the second object", y.groupRank(), 2);
+        x.save();
+        y.save();
+        y.setInverse(1, 0);
+        x.formatWord(1);
+        y.formatWord(1);
+        Check.same("the formatted text of the first object", Check.formatted(x, 2), "ab");
+        Check.fails("no edit of the first object", IllegalStateException.class, x::undo);
+        Check.same("the edit of the second object", y.undo(), 0);
+        Check.put(x, "dD");
+        Check.put(y, "ab");
+        Check.same("the saved state of the first object", x.restore(), 4);
+        Check.same("the saved state of the second object", y.restore(), 0);
+        Check.same("the bytes of the first object", x.setRegister(0), 0);
+        Check.same("the bytes of the second object", y.setRegister(0), 2);
+        Check.same("the graph of the first object", x.vertexCount(0), 2);
+        Check.same("the graph of the second object", y.vertexCount(0), 1);
     }
 }

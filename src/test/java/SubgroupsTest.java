@@ -105,6 +105,14 @@ public final class SubgroupsTest {
         Check.same("reached along an unfinished path", EVEN.reachedVertex(1, 3), 1);
         Check.same("edge missing", EVEN.reachedVertex(1, 7), NONE);
         Check.same("empty path", EVEN.reachedVertex(1, 6), 0);
+        // The vertices are 0, 1 and 2; a fixes 0 and exchanges the others, b exchanges 0 and 1 and fixes 2.
+        FreeGroupCalculator x = Check.loaded("rank 2; set 0 a; set 1 bb; set 2 baaB; set 3 babAB; join 1 0; join 1 1;"
+                + "join 1 2; join 1 3; set 0 baB; set 1 Bab; set 2 bAba; set 3 bbb; set 4 BAB; set 5 babaB; set 6 abA;");
+        int[] due = {2, 2, 1, 1, 2, 0, 2, 0};
+        for (int register = 0; register < 8; register++) {
+            Check.same("reached by the register " + register, x.reachedVertex(1, register), due[register]);
+            Check.same("contains the register " + register, x.contains(1, register), due[register] == 0);
+        }
     }
 
     private static void powers() {
@@ -145,6 +153,14 @@ public final class SubgroupsTest {
         Check.same("index 3", z.index(1), 3);
         Check.same("only the first word is open elsewhere", z.isNormal(1), false);
         Check.same("only the last word is open elsewhere", z.isNormal(0), false);
+        // The vertices are the corners of a square; a is a reflection that moves 0 to 1, its opposite corner, and b is
+        // the rotation. The words are closed at 0 and 1, and some of them are open at the other corners.
+        FreeGroupCalculator v = Check.loaded("rank 2; set 0 aa; set 1 baB; set 2 Bab; set 3 bbA; set 4 abb; set 5 aba;"
+                + "join 0 0; join 0 1; join 0 2; join 0 3; join 0 4;");
+        Check.same("index 4", v.index(0), 4);
+        Check.same("the opposite corner", v.neighbour(0, 0, 0), 1);
+        Check.same("another corner", v.reachedVertex(0, 5), 3);
+        Check.same("open at the last two vertices", v.isNormal(0), false);
         FreeGroupCalculator w = Check.loaded("rank 1; set 0 aa; set 1 a; join 0 0; join 0 1; join 1 0; join 1 1;");
         w.removeGeneratingWord(0, 1);
         Check.same("without the removed word", w.isNormal(0), true);
