@@ -2,12 +2,17 @@
  * All that an object answers, read as texts that can be compared. Reading uses the object up: it formats, undoes,
  * restores and sets a register. Of a state with short words it takes some 300 calls.
  */
-record Snapshot(String error, String formatted, String state, String history, String saved, String input) {
+record Snapshot(String error, String formatted, State state, String history, String saved, String input) {
+    record State(int rank, String registers, String first, String second, int commonRank) {
+        String register(int number) {
+            return registers.split(" ")[2 + number];
+        }
+    }
+
     static Snapshot of(FreeGroupCalculator x) {
         String error = x.errorKind() + " at " + x.errorPosition();
         String formatted = formattedText(x);
-        String state = "rank " + x.groupRank() + registers(x) + subgroup(x, 0) + subgroup(x, 1)
-                + " common rank " + x.intersectionRank();
+        State state = new State(x.groupRank(), registers(x), subgroup(x, 0), subgroup(x, 1), x.intersectionRank());
         return new Snapshot(error, formatted, state, history(x), saved(x), input(x));
     }
 

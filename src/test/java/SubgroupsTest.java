@@ -161,6 +161,12 @@ public final class SubgroupsTest {
         Check.same("the opposite corner", v.neighbour(0, 0, 0), 1);
         Check.same("another corner", v.reachedVertex(0, 5), 3);
         Check.same("open at the last two vertices", v.isNormal(0), false);
+        // Another square: a exchanges neighbours, b exchanges 0 and 2, which are opposite corners.
+        FreeGroupCalculator u = Check.loaded("rank 2; set 0 aa; set 1 bb; set 2 abA; set 3 baaB; set 4 babAB;"
+                + "join 0 0; join 0 1; join 0 2; join 0 3; join 0 4;");
+        Check.same("index 4", u.index(0), 4);
+        Check.same("the opposite corner", u.neighbour(0, 0, 2), 2);
+        Check.same("open at the vertices 1 and 3", u.isNormal(0), false);
         FreeGroupCalculator w = Check.loaded("rank 1; set 0 aa; set 1 a; join 0 0; join 0 1; join 1 0; join 1 1;");
         w.removeGeneratingWord(0, 1);
         Check.same("without the removed word", w.isNormal(0), true);

@@ -9,10 +9,12 @@ import java.util.function.Consumer;
  */
 public final class UnchangedTest {
     public static void main(String[] args) {
+        whatIsThereBefore();
         questions();
         inputBuffer();
         formattedText();
         edits();
+        partsOfTheState();
         undo();
         save();
         load();
@@ -53,6 +55,22 @@ public final class UnchangedTest {
 
     private static Snapshot before() {
         return Snapshot.of(busy());
+    }
+
+    // A snapshot asks questions itself; here it is compared with what is due by the document.
+    private static void whatIsThereBefore() {
+        String registers = " registers a2b. bc. c-1. bab-1. 1. bcbc. cb. b-1a-2.";
+        String first = " words 4 vertices 1 edges 3 0 0 0";
+        String second = " words 2 vertices 4 edges 5 1 2 -1 3 -1 -1 2 -1 -1 -1 0 -1";
+        Snapshot found = before();
+        Check.same("error", found.error(), FreeGroupCalculator.UNKNOWN_GENERATOR + " at 13");
+        Check.same("formatted text", found.formatted(), "bab-1.");
+        Check.same("state", found.state(), new Snapshot.State(3, registers, first, second, 2));
+        Check.same("edits", found.history(), " undo 2 3 2 1 3 0 4 2 3 words 4 1 edges 3 3"
+                + " undo 1 3 2 1 3 0 4 2 3 words 3 1 edges 2 3 undo 0 3 2 1 3 0 4 2 0 words 3 1 edges 2 3 undo .");
+        Check.same("saved state", found.saved(), "18" + registers + " words 3 vertices 1 edges 2 -1 0 0"
+                + " words 1 vertices 3 edges 3 1 -1 -1 2 -1 -1 -1 0 -1");
+        Check.same("input", found.input(), "5 bytes c2a-1ba.");
     }
 
     private static Map<String, Consumer<FreeGroupCalculator>> listOfQuestions() {
@@ -160,19 +178,25 @@ public final class UnchangedTest {
         Check.same("formatRepresentative of the base vertex", base.formatted(), ".");
     }
 
-    private static Map<String, Consumer<FreeGroupCalculator>> listOfEdits() {
+    private static Map<String, Consumer<FreeGroupCalculator>> listOfRegisterEdits() {
         Map<String, Consumer<FreeGroupCalculator>> list = new LinkedHashMap<>();
-        list.put("setProduct", x -> x.setProduct(0, 1, 2));
-        list.put("setProduct of a register with itself", x -> x.setProduct(0, 0, 0));
-        list.put("setInverse", x -> x.setInverse(0, 1));
-        list.put("setInverse of the register itself", x -> x.setInverse(1, 1));
+        list.put("setRegister", x -> x.setRegister(2));
+        list.put("setProduct", x -> x.setProduct(2, 0, 1));
+        list.put("setProduct of a register with itself", x -> x.setProduct(2, 2, 2));
+        list.put("setInverse", x -> x.setInverse(2, 1));
+        list.put("setInverse of the register itself", x -> x.setInverse(2, 2));
         list.put("setConjugate", x -> x.setConjugate(2, 0, 1));
-        list.put("setCommutator", x -> x.setCommutator(0, 0, 1));
-        list.put("setPower", x -> x.setPower(0, 1, 3));
-        list.put("setPower of the exponent 0", x -> x.setPower(0, 1, 0));
-        list.put("setPower that changes nothing", x -> x.setPower(0, 0, 1));
-        list.put("setRoot", x -> x.setRoot(0, 5));
-        list.put("substitute", x -> x.substitute(0, 0, 0, 1));
+        list.put("setCommutator", x -> x.setCommutator(2, 0, 1));
+        list.put("setPower", x -> x.setPower(2, 1, 3));
+        list.put("setPower of the exponent 0", x -> x.setPower(2, 1, 0));
+        list.put("setPower that changes nothing", x -> x.setPower(2, 2, 1));
+        list.put("setRoot", x -> x.setRoot(2, 5));
+        list.put("substitute", x -> x.substitute(2, 0, 0, 1));
+        return list;
+    }
+
+    private static Map<String, Consumer<FreeGroupCalculator>> listOfOtherEdits() {
+        Map<String, Consumer<FreeGroupCalculator>> list = new LinkedHashMap<>();
         list.put("addGeneratingWord", x -> x.addGeneratingWord(0, 0));
         list.put("addGeneratingWord of the empty word", x -> x.addGeneratingWord(1, 4));
         list.put("removeGeneratingWord", x -> x.removeGeneratingWord(0, 0));
@@ -183,26 +207,54 @@ public final class UnchangedTest {
 
     private static void edits() {
         Snapshot due = before();
-        listOfEdits().forEach((name, edit) -> {
+        Map<String, Consumer<FreeGroupCalculator>> list = listOfRegisterEdits();
+        list.putAll(listOfOtherEdits());
+        list.forEach((name, edit) -> {
+            boolean takesInput = name.equals("setRegister");
+            String input = takesInput ? "0 bytes 1." : due.input();
             Snapshot found = all(edit);
             Check.same("the parse error after " + name, found.error(), due.error());
             Check.same("the formatted text after " + name, found.formatted(), due.formatted());
             Check.same("the saved state after " + name, found.saved(), due.saved());
-            Check.same("the input after " + name, found.input(), due.input());
+            Check.same("the input after " + name, found.input(), input);
             Check.same("the edits after " + name, found.history().startsWith(" undo 3"), true);
-            Check.same("all after undoing " + name, all(edit.andThen(x -> x.undo())), due);
+            Snapshot undone = all(edit.andThen(x -> x.undo()));
+            Check.same("undo does not change the input after " + name, undone.input(), input);
+            Check.same("all after undoing " + name, undone.withInput(due), due);
             Check.same("all after undoing two times " + name, all(edit.andThen(edit).andThen(x -> x.undo())
-                    .andThen(x -> x.undo())), due);
+                    .andThen(x -> x.undo())).withInput(due), due);
         });
-        Consumer<FreeGroupCalculator> edit = x -> x.setRegister(0);
-        Snapshot found = all(edit);
-        Check.same("the input after setRegister", found.input(), "0 bytes 1.");
-        Check.same("the parse error after setRegister", found.error(), due.error());
-        Check.same("the formatted text after setRegister", found.formatted(), due.formatted());
-        Check.same("the saved state after setRegister", found.saved(), due.saved());
-        Snapshot undone = all(edit.andThen(x -> x.undo()));
-        Check.same("undo does not bring back the input", undone.input(), "0 bytes 1.");
-        Check.same("all but the input after undoing setRegister", undone.withInput(due), due);
+    }
+
+    // What an edit of a register or of a subgroup leaves of the registers and the subgroups.
+    private static void partsOfTheState() {
+        Snapshot.State due = before().state();
+        listOfRegisterEdits().forEach((name, edit) -> {
+            Snapshot.State found = all(edit).state();
+            for (int register = 0; register < 8; register++) {
+                if (register != 2) {
+                    Check.same("register " + register + " after " + name, found.register(register),
+                            due.register(register));
+                }
+            }
+            Check.same("rank after " + name, found.rank(), due.rank());
+            Check.same("subgroup 0 after " + name, found.first(), due.first());
+            Check.same("subgroup 1 after " + name, found.second(), due.second());
+            Check.same("intersection after " + name, found.commonRank(), due.commonRank());
+        });
+        listOfOtherEdits().forEach((name, edit) -> {
+            Snapshot.State found = all(edit).state();
+            Check.same("rank after " + name, found.rank(), due.rank());
+            Check.same("registers after " + name, found.registers(), due.registers());
+        });
+        Check.same("subgroup 1 after an edit of subgroup 0", all(x -> x.addGeneratingWord(0, 5)).state().second(),
+                due.second());
+        Check.same("subgroup 0 after an edit of subgroup 1", all(x -> x.addGeneratingWord(1, 5)).state().first(),
+                due.first());
+        Check.same("subgroup 1 after an edit of subgroup 0", all(x -> x.removeGeneratingWord(0, 1)).state().second(),
+                due.second());
+        Check.same("subgroup 0 after an edit of subgroup 1", all(x -> x.removeGeneratingWord(1, 1)).state().first(),
+                due.first());
     }
 
     private static void undo() {
